@@ -10,7 +10,8 @@ public final class GiveTest {
         notAdjacent();
         throughTwo();
         revoked();
-        full();
+        full(8);
+        full(32);
         revokerIsNoForwarder();
         due.end();
     }
@@ -153,21 +154,22 @@ public final class GiveTest {
         due.is("give(1, 2, 4), revoked", c.give(1, 2, 4), false);
     }
 
-    private static void full() {
-        CapMembrane c = new CapMembrane(8, 8);
+    private static void full(int n) {
+        CapMembrane c = new CapMembrane(n, 8);
         c.newDomain(0);
         c.newBox(0);
         c.newBox(0);
-        Due.fillTo(c, 7);
+        Due.fillTo(c, n - 1);
         due.is("give(1, 0, 1) with the last id", c.give(1, 0, 1), true);
-        due.is("reg(1, 0)", c.reg(1, 0), 7);
+        due.is("reg(1, 0)", c.reg(1, 0), n - 1);
         String before = Due.look(c);
         due.is("give(1, 0, 2) in a full arena", c.give(1, 0, 2), false);
         due.same("give in a full arena", before, Due.look(c));
         due.is("give(1, 1, 1), the forwarder stands", c.give(1, 1, 1), true);
-        due.is("reg(1, 1)", c.reg(1, 1), 7);
-        due.is("give(0, 0, 7), an unwrap", c.give(0, 0, 7), true);
+        due.is("reg(1, 1)", c.reg(1, 1), n - 1);
+        due.is("give(0, 0, N-1), an unwrap", c.give(0, 0, n - 1), true);
         due.is("reg(0, 0)", c.reg(0, 0), 1);
+        due.is("kind(N)", c.kind(n), CapMembrane.KIND_NONE);
     }
 
     // The link of a revoker is a membrane's number, not an object.

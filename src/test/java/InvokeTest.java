@@ -19,6 +19,7 @@ public final class InvokeTest {
         resultFullAtSecondHop();
         revokedAtFirstHop();
         revokedAtSecondHop();
+        revokedElsewhere();
         ownRevoker();
         ownRevokerTwoHopsAway();
         otherRevoker();
@@ -227,6 +228,17 @@ public final class InvokeTest {
         due.is("link(7)", c.link(7), 6);
         due.is("reg(2, 1) is unchanged", c.reg(2, 1), 5);
         due.is("hits(2)", c.hits(2), 2);
+
+        CapMembrane n = chain(8);
+        n.newBox(0);
+        n.give(0, 1, 6);
+        step(n, 0, SET0, 0, 1);
+        Due.fillTo(n, 8);
+        due.is("GET0 with no id left", step(n, 2, GET0, 1, 0), 0);
+        due.is("status(2)", n.status(2), CapMembrane.ST_FULL);
+        due.is("kind(7)", n.kind(7), CapMembrane.KIND_BOX);
+        due.is("reg(2, 1) is unchanged", n.reg(2, 1), 5);
+        due.is("hits(2)", n.hits(2), 2);
     }
 
     private static void revokedAtFirstHop() {
@@ -274,6 +286,29 @@ public final class InvokeTest {
         due.is("domain 2 over membrane 2", step(n, 2, POKE, 0, 0), 0);
         due.is("hits(4)", n.hits(4), 0);
         due.is("hits(3)", n.hits(3), 1);
+    }
+
+    private static void revokedElsewhere() {
+        CapMembrane c = chain(16);
+        c.give(1, 1, 5);
+        due.is("reg(1, 1)", c.reg(1, 1), 6);
+        c.revoke(1);
+        due.is("domain 1, itself revoked, on its child's box", step(c, 1, SET0, 1, 1), 1);
+        due.is("slot(5, 0)", c.slot(5, 0), 5);
+
+        CapMembrane n = chain(16);
+        n.give(1, 1, 5);
+        n.give(0, 1, 6);
+        n.newBox(1);
+        n.give(0, 2, 8);
+        due.is("host over 1 into 2", step(n, 0, POKE, 1, 0), 1);
+        due.is("hits(5)", n.hits(5), 1);
+        n.revoke(2);
+        due.is("host into 1, 2 is revoked", step(n, 0, POKE, 2, 0), 1);
+        due.is("hits(8)", n.hits(8), 1);
+        due.is("host over 1 into 2, which is revoked", step(n, 0, POKE, 1, 0), 0);
+        due.is("status(0)", n.status(0), CapMembrane.ST_REVOKED);
+        due.is("hits(5)", n.hits(5), 1);
     }
 
     private static void ownRevoker() {
