@@ -77,7 +77,7 @@ public final class ModelTest {
             oneCall(c, m, told);
             due.same("the state is not the model's after it: " + told.get(told.size() - 1),
                 m.look(), Due.look(c));
-            alwaysHolds(c);
+            Holds.look(due, c);
         }
         if (due.wrong() != 0) {
             System.out.println("in run " + run + " of these calls:");
@@ -158,90 +158,18 @@ public final class ModelTest {
         told.add("run(" + d + ", " + steps + ")");
         String[] before = new String[5];
         for (int i = 1; i <= 3; i++) {
-            before[i] = c.revoked(i) && isUnder(c, d, i) ? outside(c, i, count(c)) : null;
+            before[i] = c.revoked(i) && Holds.isUnder(c, d, i) ? Holds.outside(c, i, Due.count(c)) : null;
         }
-        int objects = count(c);
+        int objects = Due.count(c);
         due.is(last(told), c.run(d, steps), m.run(d, steps));
         for (int i = 1; i <= 3; i++) {
             if (before[i] != null) {
-                due.same("under revoked " + i + ", " + last(told), before[i], outside(c, i, objects));
+                due.same("under revoked " + i + ", " + last(told), before[i], Holds.outside(c, i, objects));
             }
         }
     }
 
     private static String last(List<String> told) {
         return told.get(told.size() - 1);
-    }
-
-    private static int count(CapMembrane c) {
-        int n = 0;
-        while (c.kind(n) != CapMembrane.KIND_NONE) {
-            n++;
-        }
-        return n;
-    }
-
-    private static boolean isUnder(CapMembrane c, int d, int m) {
-        int at = d;
-        while (at > m) {
-            at = c.parent(at);
-        }
-        return at == m;
-    }
-
-    /** Hits, slots and registers outside subtree(m), of the first n objects. */
-    private static String outside(CapMembrane c, int m, int n) {
-        StringBuilder s = new StringBuilder();
-        for (int o = 0; o < n; o++) {
-            if (!isUnder(c, c.home(o), m)) {
-                s.append(o).append(':').append(c.hits(o)).append(',');
-                s.append(c.slot(o, 0)).append(',').append(c.slot(o, 1)).append(' ');
-            }
-        }
-        for (int d = 0; c.parent(d) != -2; d++) {
-            for (int r = 0; r < 4 && !isUnder(c, d, m); r++) {
-                s.append(c.reg(d, r)).append(' ');
-            }
-        }
-        return s.toString();
-    }
-
-    private static void alwaysHolds(CapMembrane c) {
-        int n = count(c);
-        for (int d = 0; c.parent(d) != -2; d++) {
-            for (int r = 0; r < 4; r++) {
-                belongs(c, "reg(" + d + ", " + r + ")", c.reg(d, r), d, n);
-            }
-        }
-        for (int o = 0; o < n; o++) {
-            belongs(c, "slot(" + o + ", 0)", c.slot(o, 0), c.home(o), n);
-            belongs(c, "slot(" + o + ", 1)", c.slot(o, 1), c.home(o), n);
-            if (c.kind(o) == CapMembrane.KIND_FORWARDER) {
-                forwarderHolds(c, o, n);
-            }
-        }
-    }
-
-    private static void belongs(CapMembrane c, String where, int v, int d, int n) {
-        if (v != -1 && (v < 0 || v >= n || c.home(v) != d)) {
-            due.tell(where + " names " + v + ", which is not of domain " + d);
-        }
-    }
-
-    private static void forwarderHolds(CapMembrane c, int f, int n) {
-        int t = c.link(f);
-        int near = c.home(f);
-        int far = c.home(t);
-        boolean older = 0 <= t && t < f;
-        boolean adjacent = c.parent(near) == far || c.parent(far) == near;
-        boolean back = c.kind(t) == CapMembrane.KIND_FORWARDER && c.home(c.link(t)) == near;
-        if (!older || !adjacent || back) {
-            due.tell("forwarder " + f + " for " + t + " does not hold");
-        }
-        for (int g = f + 1; g < n; g++) {
-            if (c.kind(g) == CapMembrane.KIND_FORWARDER && c.home(g) == near && c.link(g) == t) {
-                due.tell("forwarders " + f + " and " + g + " are the same");
-            }
-        }
     }
 }
