@@ -10,6 +10,7 @@ public final class EdgeCarryTest {
         unwrap();
         unwrapOnlyThatMembranes();
         forwarderThatStands();
+        forwarderOfThatDomain();
         newForwarder();
         revokerIsNoForwarder();
         noIdLeft();
@@ -84,6 +85,28 @@ public final class EdgeCarryTest {
             due.is("reg(1, 3)", c.reg(1, 3), 7);
         }
         due.is("count", Due.count(c), 13);
+    }
+
+    // "homed in b": each neighbour has a forwarder of its own, whichever was made first.
+    private static void forwarderOfThatDomain() {
+        int[][] orders = {{0, 2, 3}, {0, 3, 2}, {2, 0, 3}, {2, 3, 0}, {3, 0, 2}, {3, 2, 0}};
+        for (int[] order : orders) {
+            CapMembrane c = new CapMembrane(16, 16);
+            c.newDomain(0);
+            c.newDomain(1);
+            c.newDomain(1);
+            c.newBox(1);
+            for (int round = 0; round < 2; round++) {
+                for (int i = 0; i < 3; i++) {
+                    String call = "give(" + order[i] + ", " + round + ", 3)";
+                    due.is(call, c.give(order[i], round, 3), true);
+                    due.is(call + ": the register", c.reg(order[i], round), 4 + i);
+                    due.same(call + ": its forwarder", " o" + (4 + i) + ":3," + order[i] + ",3,0[-1 -1 -1 -1 ]",
+                        Due.object(c, 4 + i));
+                }
+            }
+            due.is("count", Due.count(c), 7);
+        }
     }
 
     // "4. If count < N, a new FORWARDER is made with id count, home b and link r; count rises by 1"

@@ -5,9 +5,6 @@ public final class EdgeRunTest {
     private static final int NEW = CapMembrane.OP_NEW;
     private static final int POKE = CapMembrane.OP_POKE;
     private static final int DROP = CapMembrane.OP_DROP;
-    private static final int[] STATUSES = {
-        CapMembrane.ST_NULL, CapMembrane.ST_REVOKED, CapMembrane.ST_FULL,
-    };
     private static final int[] STEPS = {
         Integer.MIN_VALUE, -65535, -1, 0, 1, 2, 8, 65536, Integer.MAX_VALUE,
     };
@@ -29,6 +26,7 @@ public final class EdgeRunTest {
         othersRunOn();
         emitExtends();
         fullProgram();
+        fourFullPrograms();
         programIsNeverChanged();
         due.end();
     }
@@ -48,7 +46,7 @@ public final class EdgeRunTest {
 
     // "or status(d) != ST_READY": whatever the steps are
     private static void faultedDomain() {
-        for (int status : STATUSES) {
+        for (int status : Scene.FAULTS) {
             for (int d = 0; d <= 2; d++) {
                 for (int steps : STEPS) {
                     int domain = d;
@@ -178,7 +176,7 @@ public final class EdgeRunTest {
 
     // "the status becomes ST_NULL, ST_REVOKED or ST_FULL to match the fault, pc is unchanged"
     private static void faultStatusAndPc() {
-        for (int status : STATUSES) {
+        for (int status : Scene.FAULTS) {
             for (int d = 0; d <= 2; d++) {
                 CapMembrane c = Scene.faulted(d, status);
                 due.is("status(" + d + ")", c.status(d), status);
@@ -238,15 +236,11 @@ public final class EdgeRunTest {
 
     // One domain's fault is no other's.
     private static void othersRunOn() {
-        for (int status : STATUSES) {
+        for (int status : Scene.FAULTS) {
             for (int d = 0; d <= 2; d++) {
                 CapMembrane c = Scene.faulted(d, status);
                 for (int other = 0; other <= 2; other++) {
-                    c.give(other, 0, Scene.BOX[other]);
-                    if (other != d) {
-                        due.is("the first of the others' rest", c.run(other, 0), 0);
-                        due.is("the others' status", c.status(other), CapMembrane.ST_READY);
-                    }
+                    due.is("run(" + other + ", 0)", c.run(other, 0), other == d ? -1 : 0);
                 }
             }
         }
@@ -288,6 +282,33 @@ public final class EdgeRunTest {
                 due.is("run(" + d + ", 1)", c.run(d, 1), 0);
                 due.is("hits(3)", c.hits(3), p);
             }
+        }
+    }
+
+    // Every domain has "a program of at most P instructions" of its own: four full ones, appended
+    // and run by turns. In program d, instruction i hits box (d + i) % 4.
+    private static void fourFullPrograms() {
+        CapMembrane c = new CapMembrane(32, 32);
+        for (int i = 0; i < 3; i++) {
+            c.newDomain(i);
+        }
+        for (int i = 0; i < 16; i++) {
+            c.give(i / 4, i % 4, c.newBox(i / 4));
+        }
+        for (int i = 0; i < 128; i++) {
+            due.is("emit", c.emit(i % 4, POKE, (i % 4 + i / 4) % 4, 0), true);
+        }
+        for (int i = 0; i < 32; i++) {
+            for (int d = 3; d >= 0; d--) {
+                int box = 3 + d * 4 + (d + i) % 4;
+                int hits = c.hits(box);
+                due.is("run(" + d + ", 1)", c.run(d, 1), 1);
+                due.is("instruction " + i + " of " + d + ": hits(" + box + ")", c.hits(box), hits + 1);
+            }
+        }
+        for (int d = 0; d < 4; d++) {
+            due.is("pc(" + d + ")", c.pc(d), 32);
+            due.is("emit past P", c.emit(d, POKE, 0, 0), false);
         }
     }
 

@@ -47,8 +47,7 @@ public final class EdgeTermsTest {
             due.is("idle, the rest of program " + d, i.run(d, 99), 0);
         }
         due.is("idle, count", Due.count(i), 13);
-        int[] statuses = {CapMembrane.ST_NULL, CapMembrane.ST_REVOKED, CapMembrane.ST_FULL};
-        for (int status : statuses) {
+        for (int status : Scene.FAULTS) {
             for (int d = 0; d < 3; d++) {
                 CapMembrane f = Scene.faulted(d, status);
                 due.is("faulted, status", f.status(d), status);
@@ -116,9 +115,7 @@ public final class EdgeTermsTest {
                 c.revoke(1);
                 c.revoke(2);
                 for (int d = 0; d < 3; d++) {
-                    while (c.emit(d, CapMembrane.OP_DROP, 0, 0)) {
-                        c.run(d, 0);
-                    }
+                    Scene.fillProgram(c, d, CapMembrane.OP_DROP, 0);
                 }
                 due.is("newDomain(" + parent + ")", c.newDomain(parent), 3);
                 due.same("the fresh domain", " d3:" + parent + ",0,0,false", Due.domain(c, 3));

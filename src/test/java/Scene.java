@@ -8,9 +8,15 @@ final class Scene {
      * 2, 4 or 32 wrapped around, or if the number were cut to 8 or 16 bits.
      */
     static final int[] FAR = {
-        -2, -3, -8, -32, -255, -256, -65535, -65536, Integer.MIN_VALUE, Integer.MIN_VALUE + 1,
-        40, 64, 128, 255, 256, 257, 65535, 65536, 65537, 1 << 27, (1 << 27) + 1, 1 << 29, 1 << 30,
-        (1 << 30) + 1, -(1 << 30), Integer.MAX_VALUE - 1, Integer.MAX_VALUE,
+        -2, -3, -8, -32, -252, -254, -255, -256, -65532, -65534, -65536, Integer.MIN_VALUE,
+        Integer.MIN_VALUE + 1, Integer.MIN_VALUE + 2, Integer.MIN_VALUE + 4, 40, 64, 128, 255, 256,
+        257, 258, 260, 65535, 65536, 65537, 65538, 65540, 1 << 27, (1 << 27) + 1, 1 << 29, 1 << 30,
+        (1 << 30) + 1, (1 << 30) + 2, (1 << 30) + 4, -(1 << 30), Integer.MAX_VALUE - 1,
+        Integer.MAX_VALUE,
+    };
+
+    static final int[] FAULTS = {
+        CapMembrane.ST_NULL, CapMembrane.ST_REVOKED, CapMembrane.ST_FULL,
     };
 
     static final int[] INVOKING = {
@@ -146,6 +152,14 @@ final class Scene {
         c.emit(d, CapMembrane.OP_DROP, 3, 0);
         c.run(d, 9);
         return c;
+    }
+
+    /** Appends (op, x, x) until it is refused. */
+    static void fillProgram(CapMembrane c, int d, int op, int x) {
+        int i = 0;
+        while (i < 64 && c.emit(d, op, x, x)) {
+            i++;
+        }
     }
 
     /** What a long row of calls answers: it brings out what no getter tells, such as the programs. */
