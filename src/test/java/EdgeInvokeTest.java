@@ -4,18 +4,20 @@ public final class EdgeInvokeTest {
     private static final int ARG = 7;
     private static final int INSIDE = 8;
 
+    /** The domains of three hops: straight up, straight down, and twice over the host. */
+    private static final int[][] WAYS = {{3, 2, 1, 0}, {0, 1, 2, 3}, {1, 0, 2, 3}, {3, 2, 0, 1}};
+
     private static final Due due = new Due("EdgeInvokeTest");
 
     public static void main(String[] args) {
-        for (int way = 0; way <= 1; way++) {
-            boolean up = way == 1;
-            nullReference(up);
-            revokedOnTheWayIn(up);
-            fullOnTheWayIn(up);
-            revokedOrFull(up);
-            nilArgumentInFullArena(up);
-            slotEdges(up);
-            fullOnTheWayBack(up);
+        for (int[] way : WAYS) {
+            nullReference(way);
+            revokedOnTheWayIn(way);
+            fullOnTheWayIn(way);
+            revokedOrFull(way);
+            nilArgumentInFullArena(way);
+            slotEdges(way);
+            fullOnTheWayBack(way);
         }
         revokerAtTheEnd();
         revokerCrossedNoMembraneOfItsOwn();
@@ -26,45 +28,41 @@ public final class EdgeInvokeTest {
     }
 
     /**
-     * Domains 0 > 1 > 2 > 3. A box (3) at one end has the forwarders 4, 5 and 6 toward the other
-     * end, where register 0 holds 6 and register 1 holds box 7. Both slots of box 3 hold box 8,
-     * which has no forwarder. So many ids are free as asked for.
+     * Four domains in the tree that the way needs. A box (3) at its end has the forwarders 4, 5 and
+     * 6 back to its start, where register 0 holds 6 and register 1 holds box 7. Both slots of box 3
+     * hold box 8, which has no forwarder. So many ids are free as asked for.
      */
-    private static CapMembrane line(boolean up, int free) {
+    private static CapMembrane line(int[] way, int free) {
         CapMembrane c = new CapMembrane(16, 16);
+        boolean straight = way[1] != 0 && way[2] != 0;
         c.newDomain(0);
-        c.newDomain(1);
+        c.newDomain(straight ? 1 : 0);
         c.newDomain(2);
-        int last = up ? 0 : 3;
-        c.newBox(last);
+        c.newBox(way[3]);
         int held = TARGET;
-        for (int i = 1; i <= 3; i++) {
-            int d = up ? i : 3 - i;
-            c.give(d, 0, held);
-            held = c.reg(d, 0);
+        for (int i = 2; i >= 0; i--) {
+            c.give(way[i], 0, held);
+            held = c.reg(way[i], 0);
         }
-        c.newBox(3 - last);
-        c.newBox(last);
-        c.give(3 - last, 1, ARG);
-        c.give(last, 0, TARGET);
-        c.give(last, 1, INSIDE);
-        Scene.step(c, last, CapMembrane.OP_SET0, 0, 1);
-        Scene.step(c, last, CapMembrane.OP_SET1, 0, 1);
+        c.newBox(way[0]);
+        c.newBox(way[3]);
+        c.give(way[0], 1, ARG);
+        c.give(way[3], 0, TARGET);
+        c.give(way[3], 1, INSIDE);
+        Scene.step(c, way[3], CapMembrane.OP_SET0, 0, 1);
+        Scene.step(c, way[3], CapMembrane.OP_SET1, 0, 1);
         Due.fillTo(c, 16 - free);
+        due.is("the scene's forwarder", c.reg(way[0], 0), 6);
+        due.is("the scene's count", Due.count(c), 16 - free);
         return c;
     }
 
-    private static int caller(boolean up) {
-        return up ? 3 : 0;
+    private static int membraneOfHop(int[] way, int i) {
+        return Math.max(way[i - 1], way[i]);
     }
 
-    /** The domain that the i-th hop leads into. */
-    private static int hopInto(boolean up, int i) {
-        return up ? 3 - i : i;
-    }
-
-    private static int membraneOfHop(boolean up, int i) {
-        return up ? 4 - i : i;
+    private static String named(int[] way) {
+        return ", way " + way[0] + way[1] + way[2] + way[3];
     }
 
     /** Forwarders 6, 5 and 4 stand at hops 1, 2 and 3: the first ones have been hit once. */
@@ -86,11 +84,11 @@ public final class EdgeInvokeTest {
     }
 
     /** So many forwarders were made for ARG on the way in, from id first on. */
-    private static void argumentMade(CapMembrane c, boolean up, String when, int first, int made) {
+    private static void argumentMade(CapMembrane c, int[] way, String when, int first, int made) {
         int link = ARG;
         for (int i = 1; i <= made; i++) {
             int f = first + i - 1;
-            String want = " o" + f + ":3," + hopInto(up, i) + "," + link + ",0[-1 -1 -1 -1 ]";
+            String want = " o" + f + ":3," + way[i] + "," + link + ",0[-1 -1 -1 -1 ]";
             due.same(when + ", made at hop " + i, want, Due.object(c, f));
             link = f;
         }
@@ -108,15 +106,15 @@ public final class EdgeInvokeTest {
     }
 
     // "1. If r = NIL: fault NULL": before all else; nothing is hit, carried or made.
-    private static void nullReference(boolean up) {
+    private static void nullReference(int[] way) {
         for (int op : Scene.INVOKING) {
             for (int free = 0; free <= 3; free += 3) {
                 for (int m = 0; m <= 3; m++) {
-                    CapMembrane c = line(up, free);
-                    int d = caller(up);
+                    CapMembrane c = line(way, free);
+                    int d = way[0];
                     c.revoke(m);
                     c.give(d, 0, -1);
-                    String when = "op " + op + " on NIL, free " + free + ", revoked " + m;
+                    String when = "op " + op + " on NIL, free " + free + ", revoked " + m + named(way);
                     String before = Due.objects(c, 33) + Due.registers(c);
                     due.is(when, Scene.invoke(c, d, op, 0, 1), 0);
                     due.same(when, before, Due.objects(c, 33) + Due.registers(c));
@@ -128,18 +126,18 @@ public final class EdgeInvokeTest {
 
     // "2. ... if m is revoked, fault REVOKED; otherwise hits(cur) += 1": the forwarder that is
     // stopped at isn't hit and carries nothing; what the hops before it did stays.
-    private static void revokedOnTheWayIn(boolean up) {
+    private static void revokedOnTheWayIn(int[] way) {
         for (int op : Scene.INVOKING) {
             for (int hop = 1; hop <= 3; hop++) {
-                CapMembrane c = line(up, 4);
-                int d = caller(up);
-                c.revoke(membraneOfHop(up, hop));
-                String when = "op " + op + ", revoked at hop " + hop + (up ? " up" : " down");
+                CapMembrane c = line(way, 4);
+                int d = way[0];
+                c.revoke(membraneOfHop(way, hop));
+                String when = "op " + op + ", revoked at hop " + hop + named(way);
                 due.is(when, Scene.invoke(c, d, op, 0, 1), 0);
                 faultIsDue(c, d, when, CapMembrane.ST_REVOKED);
                 hitsAreDue(c, when, hop - 1, 0);
                 slotsAreDue(c, when);
-                argumentMade(c, up, when, 12, Scene.isSet(op) ? hop - 1 : 0);
+                argumentMade(c, way, when, 12, Scene.isSet(op) ? hop - 1 : 0);
                 registersAreDue(c, d, when);
             }
         }
@@ -147,53 +145,53 @@ public final class EdgeInvokeTest {
 
     // "arg = CARRY(arg, dom, e), and if that fails, fault FULL": the forwarder has been hit, and
     // what the hops before it made stays.
-    private static void fullOnTheWayIn(boolean up) {
+    private static void fullOnTheWayIn(int[] way) {
         for (int free = 0; free <= 2; free++) {
             for (int op = CapMembrane.OP_SET0; op <= CapMembrane.OP_SET1; op++) {
-                CapMembrane c = line(up, free);
-                int d = caller(up);
-                String when = "op " + op + ", free " + free + (up ? " up" : " down");
+                CapMembrane c = line(way, free);
+                int d = way[0];
+                String when = "op " + op + ", free " + free + named(way);
                 due.is(when, Scene.invoke(c, d, op, 0, 1), 0);
                 faultIsDue(c, d, when, CapMembrane.ST_FULL);
                 hitsAreDue(c, when, free + 1, 0);
                 slotsAreDue(c, when);
-                argumentMade(c, up, when, 16 - free, free);
+                argumentMade(c, way, when, 16 - free, free);
                 registersAreDue(c, d, when);
             }
         }
-        CapMembrane c = line(up, 3);
-        due.is("SET1 with three ids left", Scene.invoke(c, caller(up), CapMembrane.OP_SET1, 0, 1), 1);
+        CapMembrane c = line(way, 3);
+        due.is("SET1 with three ids left", Scene.invoke(c, way[0], CapMembrane.OP_SET1, 0, 1), 1);
         hitsAreDue(c, "SET1", 3, 1);
-        argumentMade(c, up, "SET1", 13, 3);
+        argumentMade(c, way, "SET1", 13, 3);
         due.is("slot(3, 1)", c.slot(TARGET, 1), 15);
         due.is("slot(3, 0)", c.slot(TARGET, 0), INSIDE);
-        registersAreDue(c, caller(up), "SET1");
+        registersAreDue(c, way[0], "SET1");
     }
 
     // "A fault ends the invocation at once": of two causes the first on the way counts, and at one
     // and the same hop the revocation is looked at before the argument is carried.
-    private static void revokedOrFull(boolean up) {
+    private static void revokedOrFull(int[] way) {
         for (int hop = 1; hop <= 3; hop++) {
             for (int free = 0; free <= 3; free++) {
-                CapMembrane c = line(up, free);
-                int d = caller(up);
-                c.revoke(membraneOfHop(up, hop));
+                CapMembrane c = line(way, free);
+                int d = way[0];
+                c.revoke(membraneOfHop(way, hop));
                 boolean full = free + 1 < hop;
-                String when = "SET0, free " + free + ", revoked at hop " + hop;
+                String when = "SET0, free " + free + ", revoked at hop " + hop + named(way);
                 due.is(when, Scene.invoke(c, d, CapMembrane.OP_SET0, 0, 1), 0);
                 faultIsDue(c, d, when, full ? CapMembrane.ST_FULL : CapMembrane.ST_REVOKED);
                 hitsAreDue(c, when, full ? free + 1 : hop - 1, 0);
                 slotsAreDue(c, when);
-                argumentMade(c, up, when, 16 - free, full ? free : hop - 1);
+                argumentMade(c, way, when, 16 - free, full ? free : hop - 1);
             }
         }
     }
 
     // "arg is NIL unless op is SET0 or SET1": POKE and GET carry no argument, so a full arena is no
     // hindrance on the way in; nor is it for a SET of NIL.
-    private static void nilArgumentInFullArena(boolean up) {
-        CapMembrane c = line(up, 0);
-        int d = caller(up);
+    private static void nilArgumentInFullArena(int[] way) {
+        CapMembrane c = line(way, 0);
+        int d = way[0];
         due.is("full: POKE", Scene.step(c, d, CapMembrane.OP_POKE, 0, 1), 1);
         hitsAreDue(c, "full: POKE", 3, 1);
         slotsAreDue(c, "full: POKE");
@@ -207,12 +205,12 @@ public final class EdgeInvokeTest {
 
     // "3. ... for GETk, res = slot k; for SETk, slot k = arg and res = NIL; for POKE, res = NIL":
     // an empty slot, a slot that is emptied, and the other slot left alone
-    private static void slotEdges(boolean up) {
+    private static void slotEdges(int[] way) {
         for (int k = 0; k <= 1; k++) {
-            int d = caller(up);
+            int d = way[0];
             int set = CapMembrane.OP_SET0 + k;
             int get = CapMembrane.OP_GET0 + k;
-            CapMembrane c = line(up, 4);
+            CapMembrane c = line(way, 4);
             due.is("SET" + k + " of NIL", Scene.step(c, d, set, 0, 3), 1);
             due.is("slot " + k, c.slot(TARGET, k), -1);
             due.is("the other slot", c.slot(TARGET, 1 - k), INSIDE);
@@ -231,18 +229,18 @@ public final class EdgeInvokeTest {
 
     // "4. ... res = CARRY(res, e, x), and if that fails, fault FULL": the box has been hit, what the
     // way back made so far stays, and the destination register is left unchanged.
-    private static void fullOnTheWayBack(boolean up) {
+    private static void fullOnTheWayBack(int[] way) {
         for (int free = 0; free <= 3; free++) {
             for (int op = CapMembrane.OP_GET0; op <= CapMembrane.OP_GET1; op++) {
-                CapMembrane c = line(up, free);
-                int d = caller(up);
-                String when = "op " + op + ", free " + free + (up ? " up" : " down");
+                CapMembrane c = line(way, free);
+                int d = way[0];
+                String when = "op " + op + ", free " + free + named(way);
                 due.is(when, Scene.invoke(c, d, op, 0, 1), free == 3 ? 1 : 0);
                 hitsAreDue(c, when, 3, 1);
                 slotsAreDue(c, when);
                 int link = INSIDE;
                 for (int f = 16 - free; f < 16; f++) {
-                    int home = up ? f - 15 + free : 2 - (f - 16 + free);
+                    int home = way[2 - (f - 16 + free)];
                     due.same(when + ", made", " o" + f + ":3," + home + "," + link + ",0[-1 -1 -1 -1 ]",
                         Due.object(c, f));
                     link = f;

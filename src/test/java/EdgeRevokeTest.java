@@ -8,6 +8,7 @@ public final class EdgeRevokeTest {
         revokeOutOfRange();
         revokeTwice();
         revokeChangesNothingElse();
+        revokeDisablesAllForwarders();
         due.end();
     }
 
@@ -68,5 +69,23 @@ public final class EdgeRevokeTest {
         due.is("2 is revoked, the host's program over 1", n.run(0, 9), 2);
         due.is("2 is revoked, the program of 2 over 2", n.run(2, 9), 0);
         due.is("status(2)", n.status(2), CapMembrane.ST_REVOKED);
+    }
+
+    // "Revoking a membrane ... disables all of its forwarders at once": those of both sides, and no
+    // other ones
+    private static void revokeDisablesAllForwarders() {
+        int[][] over = {{1}, {1}, {2}, {2}, {2, 1}, {1}, {2, 1}};
+        for (int m = 1; m <= 2; m++) {
+            for (int f = 6; f <= 12; f++) {
+                CapMembrane c = Scene.idle(13);
+                int d = c.home(f);
+                c.give(d, 3, f);
+                boolean stopped = over[f - 6][0] == m || over[f - 6].length == 2;
+                String when = "revoke(" + m + "), then POKE on " + f;
+                c.revoke(m);
+                due.is(when, Scene.step(c, d, CapMembrane.OP_POKE, 3, 0), stopped ? 0 : 1);
+                due.is(when + ": status", c.status(d), stopped ? CapMembrane.ST_REVOKED : 0);
+            }
+        }
     }
 }
